@@ -12,6 +12,7 @@ final class LineTest {
         Checks.test("23 waitsFor", LineTest::waitsFor);
         Checks.test("24 entries", LineTest::entries);
         Checks.test("24 at most 150 entries", LineTest::manyEntries);
+        Checks.test("24 a dropped entry comes back by undo()", LineTest::undoneDrop);
         Checks.test("25 entry", LineTest::entry);
         Checks.test("26 blame", LineTest::blame);
         Checks.test("27 lineAt", LineTest::lineAt);
@@ -23,6 +24,7 @@ final class LineTest {
         Checks.test("30 waitingAt", LineTest::waitingAt);
         Checks.test("31 pass", LineTest::pass);
         Checks.test("31 pass serves the line once a tick", LineTest::passServes);
+        Checks.test("31 a grant that makes room for one before it", LineTest::passMakesRoom);
         Checks.test("32 useBits", LineTest::useBits);
         Checks.finish();
     }
@@ -140,6 +142,22 @@ final class LineTest {
         Checks.due("entry(1, 4)", desk.entry(1, 4), 12);
     }
 
+    private static void undoneDrop() {
+        SectionDesk desk = fiveSections();
+        for (int value = 1; value <= 170; value++) {
+            desk.write(0, 0, value);
+        }
+        for (int undone = 1; undone <= 4; undone++) {
+            Checks.due("undo()", desk.undo(), 4 - undone);
+            Checks.due("entries()", desk.entries(), 150);
+            Checks.due("entry(0, 4)", desk.entry(0, 4), 21 - undone);
+            Checks.due("entry(149, 4)", desk.entry(149, 4), 170 - undone);
+        }
+        desk.write(0, 0, 500);
+        Checks.due("entry(0, 4)", desk.entry(0, 4), 18);
+        Checks.due("entry(149, 3)", desk.entry(149, 3), 166);
+    }
+
     private static void entry() {
         SectionDesk desk = fiveSections();
         desk.pass(3);
@@ -241,6 +259,8 @@ final class LineTest {
         Checks.due("entry(10, 1)", desk.entry(10, 1), 3);
         Checks.due("undo()", desk.undo(), 3);
         Checks.due("line(2, 0)", desk.line(2, 0), 2);
+        Checks.due("section(2, 3)", desk.section(2, 3), 5);
+        Checks.due("undo() of what changed nothing", desk.undo(), 2);
     }
 
     /** The values are told by the entries as they were before the call dropped the oldest ones. */
@@ -346,6 +366,32 @@ final class LineTest {
             int due = Float.floatToIntBits((float) held[user] / 10.0f);
             Checks.due("useBits(" + user + ")", desk.useBits(user), due);
         }
+    }
+
+    /**
+     * Ten check-outs exist; the first in the line waits only for that. The second one is granted
+     * when a lease ends, and absorbs three, so that the first one follows a tick later, although
+     * no lease ends at that tick.
+     */
+    private static void passMakesRoom() {
+        SectionDesk desk = new SectionDesk();
+        for (int section = 1; section < 13; section++) {
+            desk.addSection(section > 1 && section < 6 ? 1 : 0);
+        }
+        for (int section = 2; section < 12; section++) {
+            int user = section < 5 ? 0 : section == 5 ? 1 : 2;
+            Checks.due("request", desk.request(user, section, section == 5 ? 4 : 50, false),
+                    section - 2);
+        }
+        Checks.due("request(3, 12, 7, true)", desk.request(3, 12, 7, true), NONE);
+        Checks.due("request(0, 1, 9, false)", desk.request(0, 1, 9, false), NONE);
+        Checks.due("grantedAt(0)", desk.grantedAt(0), 4);
+        Checks.due("grantedAt(3)", desk.grantedAt(3), 5);
+        Checks.due("pass(10)", desk.pass(10), 10);
+        Checks.due("checkOut(0, 2)", desk.checkOut(0, 2), 13);
+        Checks.due("checkOut(1, 0)", desk.checkOut(1, 0), 3);
+        Checks.due("checkOut(1, 2)", desk.checkOut(1, 2), 12);
+        Checks.due("useBits(3)", desk.useBits(3), Float.floatToIntBits(0.6f));
     }
 
     private static void useBits() {

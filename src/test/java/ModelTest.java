@@ -57,6 +57,9 @@ final class ModelTest {
         if (sections > 0 && random.nextInt(4) == 0) {
             holdMany();
         }
+        if (texts > locks && random.nextInt(2) == 0) {
+            changeMuch();
+        }
         int all = structure + locks + texts + orders;
         while (calls < CALLS - 125 && Checks.isFine()) {
             int pick = random.nextInt(all);
@@ -80,6 +83,13 @@ final class ModelTest {
     private void holdMany() {
         for (int i = 0; i < 40; i++) {
             compare("request U S T B", false);
+        }
+    }
+
+    /** So many changes that the oldest entries are dropped. */
+    private void changeMuch() {
+        for (int i = 0; i < 210; i++) {
+            compare("write S L V", false);
         }
     }
 

@@ -12,6 +12,7 @@ final class TextTest {
         Checks.test("35 carryOut, each order", TextTest::eachOrder);
         Checks.test("35 carryOut with a syntax error", TextTest::syntaxErrors);
         Checks.test("35 carryOut with a wrong order", TextTest::wrongOrders);
+        Checks.test("35 carryOut of shared requests", TextTest::sharedOrders);
         Checks.test("35 carryOut of a full text", TextTest::fullText);
         Checks.test("36 outline", TextTest::outline);
         Checks.test("37 undo", TextTest::undo);
@@ -124,6 +125,17 @@ final class TextTest {
             Checks.due("digest() after " + texts[i], desk.digest(), before);
         }
         Checks.due("a syntax error comes first", carryOut(desk, "d 1;p 5"), -17);
+    }
+
+    /** Whether a request is shared matters for what the user may hold already. */
+    private static void sharedOrders() {
+        SectionDesk desk = new SectionDesk();
+        desk.addSection(0);
+        desk.request(0, 1, 10, true);
+        Checks.due("shared above his own", carryOut(desk, "q 0 0 5 1;"), -1000);
+        Checks.due("exclusive above his own", carryOut(desk, "q 0 0 5 0;"), 1);
+        Checks.due("checkOut(0, 1)", desk.checkOut(0, 1), 0);
+        Checks.due("checkOut(0, 4)", desk.checkOut(0, 4), 0);
     }
 
     private static void fullText() {
