@@ -27,16 +27,6 @@ final class CheckOutTest {
         Checks.finish();
     }
 
-    /** 0(1(2,3),4). */
-    private static SectionDesk fiveSections() {
-        SectionDesk desk = new SectionDesk();
-        desk.addSection(0);
-        desk.addSection(1);
-        desk.addSection(1);
-        desk.addSection(0);
-        return desk;
-    }
-
     /** A root with many children. */
     private static SectionDesk flat(int children) {
         SectionDesk desk = new SectionDesk();
@@ -47,7 +37,7 @@ final class CheckOutTest {
     }
 
     private static void request() {
-        SectionDesk desk = fiveSections();
+        SectionDesk desk = Checks.fiveSections();
         Checks.due("request(0, 2, 1, false)", desk.request(0, 2, 1, false), 0);
         Checks.due("request(0, 3, 1000, false)", desk.request(0, 3, 1000, false), 1);
         Checks.due("request(5, 4, 7, true)", desk.request(5, 4, 7, true), 2);
@@ -61,7 +51,7 @@ final class CheckOutTest {
     }
 
     private static void requestRefused() {
-        SectionDesk desk = fiveSections();
+        SectionDesk desk = Checks.fiveSections();
         Checks.noSuch(desk, "user -1", () -> desk.request(-1, 0, 1, false));
         Checks.noSuch(desk, "user 6", () -> desk.request(6, 0, 0, false));
         Checks.noSuch(desk, "section 5", () -> desk.request(0, 5, 0, false));
@@ -82,7 +72,7 @@ final class CheckOutTest {
     }
 
     private static void requestWaits() {
-        SectionDesk desk = fiveSections();
+        SectionDesk desk = Checks.fiveSections();
         desk.request(0, 2, 5, false);
         Checks.due("exclusive above", desk.request(1, 1, 5, false), NONE);
         Checks.due("blocked by the waiting one", desk.request(2, 3, 5, true), NONE);
@@ -98,7 +88,7 @@ final class CheckOutTest {
     }
 
     private static void requestAbsorbs() {
-        SectionDesk desk = fiveSections();
+        SectionDesk desk = Checks.fiveSections();
         desk.write(2, 0, 1);
         desk.request(0, 2, 5, false);
         desk.request(0, 3, 5, true);
@@ -172,7 +162,7 @@ final class CheckOutTest {
     }
 
     private static void cancel() {
-        SectionDesk desk = fiveSections();
+        SectionDesk desk = Checks.fiveSections();
         desk.request(0, 2, 5, true);
         desk.request(1, 1, 5, false);
         desk.request(2, 3, 5, false);
@@ -189,7 +179,7 @@ final class CheckOutTest {
     }
 
     private static void renew() {
-        SectionDesk desk = fiveSections();
+        SectionDesk desk = Checks.fiveSections();
         desk.request(0, 2, 5, true);
         desk.request(1, 4, 5, false);
         desk.pass(3);
@@ -215,7 +205,7 @@ final class CheckOutTest {
     }
 
     private static void breakUp() {
-        SectionDesk desk = fiveSections();
+        SectionDesk desk = Checks.fiveSections();
         desk.request(4, 1, 5, false);
         desk.request(1, 2, 5, true);
         desk.request(2, 3, 5, true);
@@ -233,7 +223,7 @@ final class CheckOutTest {
     }
 
     private static void discard() {
-        SectionDesk desk = fiveSections();
+        SectionDesk desk = Checks.fiveSections();
         desk.request(0, 1, 5, false);
         desk.edit(0, 2, 0, 5);
         desk.edit(0, 3, 5, 6);
@@ -255,7 +245,7 @@ final class CheckOutTest {
     }
 
     private static void edit() {
-        SectionDesk desk = fiveSections();
+        SectionDesk desk = Checks.fiveSections();
         desk.write(2, 3, 4);
         desk.request(0, 1, 5, false);
         desk.request(1, 4, 5, true);
@@ -280,7 +270,7 @@ final class CheckOutTest {
     }
 
     private static void copied() {
-        SectionDesk desk = fiveSections();
+        SectionDesk desk = Checks.fiveSections();
         desk.write(2, 3, 4);
         desk.write(4, 0, 6);
         desk.request(0, 1, 2, false);
@@ -302,7 +292,7 @@ final class CheckOutTest {
 
     /** A lost check-out 0 of section 1, whose lines 0 to 4 of section 2 show each case. */
     private static SectionDesk lostOne() {
-        SectionDesk desk = fiveSections();
+        SectionDesk desk = Checks.fiveSections();
         desk.request(3, 1, 5, false);
         desk.edit(0, 2, 1, 11);
         desk.edit(0, 2, 2, 12);
@@ -330,7 +320,7 @@ final class CheckOutTest {
     }
 
     private static void giveBackHeld() {
-        SectionDesk desk = fiveSections();
+        SectionDesk desk = Checks.fiveSections();
         desk.request(2, 1, 5, false);
         desk.edit(0, 3, 5, 6);
         desk.edit(0, 2, 0, 5);
@@ -390,7 +380,7 @@ final class CheckOutTest {
     }
 
     private static void checkOut() {
-        SectionDesk desk = fiveSections();
+        SectionDesk desk = Checks.fiveSections();
         desk.pass(2);
         desk.request(5, 1, 7, false);
         desk.request(4, 4, 3, true);
@@ -410,7 +400,7 @@ final class CheckOutTest {
     }
 
     private static void holders() {
-        SectionDesk desk = fiveSections();
+        SectionDesk desk = Checks.fiveSections();
         desk.request(0, 2, 7, false);
         desk.request(1, 3, 7, true);
         desk.request(2, 3, 3, true);

@@ -62,6 +62,16 @@ final class Checks {
         refused(desk, IllegalStateException.class, call, made);
     }
 
+    /** 0(1(2,3),4). */
+    static SectionDesk fiveSections() {
+        SectionDesk desk = new SectionDesk();
+        desk.addSection(0);
+        desk.addSection(1);
+        desk.addSection(1);
+        desk.addSection(0);
+        return desk;
+    }
+
     /** Puts a text in the place of the order text. */
     static void putText(SectionDesk desk, String text) {
         desk.clearText();

@@ -20,16 +20,6 @@ final class DocumentTest {
         Checks.finish();
     }
 
-    /** 0(1(2,3),4). */
-    private static SectionDesk fiveSections() {
-        SectionDesk desk = new SectionDesk();
-        desk.addSection(0);
-        desk.addSection(1);
-        desk.addSection(1);
-        desk.addSection(0);
-        return desk;
-    }
-
     private static void newObject() {
         SectionDesk desk = new SectionDesk();
         Checks.due("NONE", SectionDesk.NONE, -1);
@@ -52,7 +42,7 @@ final class DocumentTest {
     }
 
     private static void addSection() {
-        SectionDesk desk = fiveSections();
+        SectionDesk desk = Checks.fiveSections();
         Checks.same("outline", Checks.outline(desk), "0(1(2,3),4)");
         desk.write(2, 0, 7);
         desk.removeSection(2);
@@ -72,7 +62,7 @@ final class DocumentTest {
     }
 
     private static void addSectionCovered() {
-        SectionDesk desk = fiveSections();
+        SectionDesk desk = Checks.fiveSections();
         desk.request(0, 2, 5, true);
         Checks.badState(desk, "addSection(2), held", () -> desk.addSection(2));
         Checks.due("addSection(1), above the held one", desk.addSection(1), 5);
@@ -89,7 +79,7 @@ final class DocumentTest {
     }
 
     private static void removeSection() {
-        SectionDesk desk = fiveSections();
+        SectionDesk desk = Checks.fiveSections();
         desk.write(4, 1, 8);
         desk.write(3, 1, 9);
         desk.write(2, 5, 9);
@@ -106,7 +96,7 @@ final class DocumentTest {
     }
 
     private static void removeSectionClaimed() {
-        SectionDesk desk = fiveSections();
+        SectionDesk desk = Checks.fiveSections();
         desk.request(0, 2, 1, false);
         Checks.badState(desk, "removeSection(2)", () -> desk.removeSection(2));
         Checks.badState(desk, "removeSection(1)", () -> desk.removeSection(1));
@@ -126,7 +116,7 @@ final class DocumentTest {
     }
 
     private static void moveSection() {
-        SectionDesk desk = fiveSections();
+        SectionDesk desk = Checks.fiveSections();
         Checks.due("moveSection(2, 1)", desk.moveSection(2, 1), 2);
         Checks.same("outline", Checks.outline(desk), "0(1(3,2),4)");
         Checks.due("moveSection(1, 4)", desk.moveSection(1, 4), 2);
@@ -144,7 +134,7 @@ final class DocumentTest {
     }
 
     private static void moveSectionClaimed() {
-        SectionDesk desk = fiveSections();
+        SectionDesk desk = Checks.fiveSections();
         desk.request(0, 2, 5, true);
         Checks.badState(desk, "moveSection(2, 0)", () -> desk.moveSection(2, 0));
         Checks.badState(desk, "moveSection(1, 4)", () -> desk.moveSection(1, 4));
@@ -168,7 +158,7 @@ final class DocumentTest {
     }
 
     private static void section() {
-        SectionDesk desk = fiveSections();
+        SectionDesk desk = Checks.fiveSections();
         desk.write(1, 0, 5);
         desk.write(1, 0, 5);
         desk.write(1, 3, 5);
@@ -187,7 +177,7 @@ final class DocumentTest {
     }
 
     private static void child() {
-        SectionDesk desk = fiveSections();
+        SectionDesk desk = Checks.fiveSections();
         Checks.due("child(0, 0)", desk.child(0, 0), 1);
         Checks.due("child(0, 1)", desk.child(0, 1), 4);
         Checks.due("child(1, 1)", desk.child(1, 1), 3);
@@ -199,7 +189,7 @@ final class DocumentTest {
     }
 
     private static void line() {
-        SectionDesk desk = fiveSections();
+        SectionDesk desk = Checks.fiveSections();
         desk.write(3, 5, 999);
         Checks.due("line(3, 5)", desk.line(3, 5), 999);
         Checks.due("line(3, 4)", desk.line(3, 4), 0);
@@ -211,7 +201,7 @@ final class DocumentTest {
     }
 
     private static void write() {
-        SectionDesk desk = fiveSections();
+        SectionDesk desk = Checks.fiveSections();
         Checks.due("write(2, 0, 999)", desk.write(2, 0, 999), 0);
         Checks.due("write(2, 0, 0)", desk.write(2, 0, 0), 999);
         Checks.due("section(2, 3)", desk.section(2, 3), 2);
@@ -230,7 +220,7 @@ final class DocumentTest {
     }
 
     private static void writeHeld() {
-        SectionDesk desk = fiveSections();
+        SectionDesk desk = Checks.fiveSections();
         desk.request(0, 1, 4, true);
         Checks.badState(desk, "write(1, 0, 5)", () -> desk.write(1, 0, 5));
         Checks.badState(desk, "write(2, 0, 5)", () -> desk.write(2, 0, 5));

@@ -29,18 +29,8 @@ final class LineTest {
         Checks.finish();
     }
 
-    /** 0(1(2,3),4). */
-    private static SectionDesk fiveSections() {
-        SectionDesk desk = new SectionDesk();
-        desk.addSection(0);
-        desk.addSection(1);
-        desk.addSection(1);
-        desk.addSection(0);
-        return desk;
-    }
-
     private static void ifBroken() {
-        SectionDesk desk = fiveSections();
+        SectionDesk desk = Checks.fiveSections();
         desk.request(0, 1, 50, false);
         desk.request(1, 2, 5, true);
         desk.request(2, 1, 5, true);
@@ -59,7 +49,7 @@ final class LineTest {
     }
 
     private static void grantedAt() {
-        SectionDesk desk = fiveSections();
+        SectionDesk desk = Checks.fiveSections();
         desk.pass(10);
         desk.request(0, 1, 7, false);
         desk.request(1, 2, 4, false);
@@ -76,7 +66,7 @@ final class LineTest {
     }
 
     private static void grantedAtLate() {
-        SectionDesk desk = fiveSections();
+        SectionDesk desk = Checks.fiveSections();
         desk.pass(5);
         desk.request(0, 0, 1000, false);
         desk.request(1, 0, 1000, false);
@@ -90,7 +80,7 @@ final class LineTest {
     }
 
     private static void waitsFor() {
-        SectionDesk desk = fiveSections();
+        SectionDesk desk = Checks.fiveSections();
         desk.request(0, 2, 50, true);
         desk.request(1, 3, 50, false);
         desk.request(2, 4, 50, true);
@@ -110,7 +100,7 @@ final class LineTest {
     }
 
     private static void entries() {
-        SectionDesk desk = fiveSections();
+        SectionDesk desk = Checks.fiveSections();
         desk.write(1, 0, 5);
         desk.write(1, 0, 5);
         desk.write(4, 0, 5);
@@ -125,7 +115,7 @@ final class LineTest {
     }
 
     private static void manyEntries() {
-        SectionDesk desk = fiveSections();
+        SectionDesk desk = Checks.fiveSections();
         for (int value = 1; value <= 160; value++) {
             desk.write(value % 5, value % 6, value);
             Checks.due("entries()", desk.entries(), Math.min(150, value));
@@ -143,7 +133,7 @@ final class LineTest {
     }
 
     private static void undoneDrop() {
-        SectionDesk desk = fiveSections();
+        SectionDesk desk = Checks.fiveSections();
         for (int value = 1; value <= 170; value++) {
             desk.write(0, 0, value);
         }
@@ -159,7 +149,7 @@ final class LineTest {
     }
 
     private static void entry() {
-        SectionDesk desk = fiveSections();
+        SectionDesk desk = Checks.fiveSections();
         desk.pass(3);
         desk.write(4, 5, 7);
         desk.request(2, 1, 5, false);
@@ -178,7 +168,7 @@ final class LineTest {
     }
 
     private static void blame() {
-        SectionDesk desk = fiveSections();
+        SectionDesk desk = Checks.fiveSections();
         desk.request(2, 1, 5, false);
         desk.edit(0, 3, 1, 9);
         desk.giveBack(0, 0);
@@ -201,7 +191,7 @@ final class LineTest {
     }
 
     private static void lineAt() {
-        SectionDesk desk = fiveSections();
+        SectionDesk desk = Checks.fiveSections();
         desk.write(1, 2, 5);
         desk.pass(2);
         desk.write(1, 2, 6);
@@ -220,7 +210,7 @@ final class LineTest {
     }
 
     private static void lineAtDropped() {
-        SectionDesk desk = fiveSections();
+        SectionDesk desk = Checks.fiveSections();
         desk.pass(1);
         desk.write(1, 2, 5);
         Checks.due("lineAt(1, 2, 0)", desk.lineAt(1, 2, 0), 0);
@@ -233,7 +223,7 @@ final class LineTest {
     }
 
     private static void revert() {
-        SectionDesk desk = fiveSections();
+        SectionDesk desk = Checks.fiveSections();
         desk.write(2, 0, 1);
         desk.write(4, 0, 1);
         desk.pass(1);
@@ -265,7 +255,7 @@ final class LineTest {
 
     /** The values are told by the entries as they were before the call dropped the oldest ones. */
     private static void revertDropping() {
-        SectionDesk desk = fiveSections();
+        SectionDesk desk = Checks.fiveSections();
         desk.pass(1);
         desk.write(1, 0, 5);
         for (int i = 0; i < 149; i++) {
@@ -279,7 +269,7 @@ final class LineTest {
     }
 
     private static void revertRefused() {
-        SectionDesk desk = fiveSections();
+        SectionDesk desk = Checks.fiveSections();
         desk.write(2, 0, 1);
         desk.pass(4);
         desk.request(0, 1, 5, true);
@@ -298,7 +288,7 @@ final class LineTest {
     }
 
     private static void waiting() {
-        SectionDesk desk = fiveSections();
+        SectionDesk desk = Checks.fiveSections();
         desk.request(0, 0, 50, false);
         for (int user = 1; user < 6; user++) {
             desk.request(user, user - 1, 5, true);
@@ -311,7 +301,7 @@ final class LineTest {
     }
 
     private static void waitingAt() {
-        SectionDesk desk = fiveSections();
+        SectionDesk desk = Checks.fiveSections();
         desk.request(0, 0, 50, false);
         desk.request(4, 2, 7, true);
         desk.request(3, 1, 8, false);
@@ -329,7 +319,7 @@ final class LineTest {
     }
 
     private static void pass() {
-        SectionDesk desk = fiveSections();
+        SectionDesk desk = Checks.fiveSections();
         desk.request(0, 1, 3, false);
         desk.request(1, 4, 3, true);
         desk.request(2, 0, 2, false);
@@ -352,7 +342,7 @@ final class LineTest {
 
     /** Each of the waiting ones gets its turn within one call. */
     private static void passServes() {
-        SectionDesk desk = fiveSections();
+        SectionDesk desk = Checks.fiveSections();
         desk.request(0, 0, 3, false);
         desk.request(1, 0, 2, false);
         desk.request(2, 1, 1, true);
@@ -395,7 +385,7 @@ final class LineTest {
     }
 
     private static void useBits() {
-        SectionDesk desk = fiveSections();
+        SectionDesk desk = Checks.fiveSections();
         desk.request(0, 1, 700, false);
         desk.request(1, 2, 3, true);
         desk.request(2, 4, 7, true);
@@ -414,7 +404,7 @@ final class LineTest {
         }
         Checks.noSuch(desk, "useBits(6)", () -> desk.useBits(6));
         Checks.noSuch(desk, "useBits(-1)", () -> desk.useBits(-1));
-        SectionDesk three = fiveSections();
+        SectionDesk three = Checks.fiveSections();
         three.request(0, 2, 9, false);
         three.request(0, 3, 9, true);
         three.request(0, 4, 9, true);

@@ -1,13 +1,9 @@
-import java.lang.reflect.InvocationTargetException;
-import java.lang.reflect.Method;
 import java.util.ArrayList;
 import java.util.List;
 import java.util.Random;
 
 /** Runs of calls, the same ones in every session, on SectionDesk and on PlainDesk side by side. */
 final class ModelTest {
-    private static final int CALLS = 512;
-
     /**
      * Each method with what its arguments are: S a section, N a new parent, U a user, C a check-out,
      * L a line, V a value, T a number of ticks, Q a short number of ticks, P a policy, B a boolean,
@@ -24,10 +20,10 @@ final class ModelTest {
         "entry I W", "blame S L", "lineAt S L K", "revert S K", "undo", "append Y", "clearText"};
 
     private final Random random;
-    private final SectionDesk desk = new SectionDesk();
     private final PlainDesk plain = new PlainDesk();
+    private final Target model = new Target(plain);
+    private final Target tested = new Target(new SectionDesk());
     private final List<String> told = new ArrayList<>();
-    private int calls;
 
     private ModelTest(long seed) {
         random = new Random(seed);
@@ -61,7 +57,7 @@ final class ModelTest {
             changeMuch();
         }
         int all = structure + locks + texts + orders;
-        while (calls < CALLS - 125 && Checks.isFine()) {
+        while (tested.calls() < Target.MOST_CALLS - 125 && Checks.isFine()) {
             int pick = random.nextInt(all);
             if (pick < structure) {
                 compare(oneOf(STRUCTURE), false);
@@ -96,7 +92,7 @@ final class ModelTest {
     private static void wildRuns(long from, int many) {
         for (long seed = from; seed < from + many && Checks.isFine(); seed++) {
             ModelTest test = new ModelTest(seed);
-            while (test.calls < CALLS - 1 && Checks.isFine()) {
+            while (test.tested.calls() < Target.MOST_CALLS - 1 && Checks.isFine()) {
                 int pick = test.random.nextInt(3);
                 String[] from3 = pick == 0 ? STRUCTURE : pick == 1 ? LOCKS : TEXTS;
                 test.compare(test.oneOf(from3), test.random.nextInt(3) == 0);
@@ -110,12 +106,12 @@ final class ModelTest {
     }
 
     private void compareOrders() {
-        compareCall("clearText", new Class<?>[0], new Object[0]);
+        compareCall("clearText", List.of());
         String text = orders();
         for (int i = 0; i < text.length(); i++) {
-            compareCall("append", new Class<?>[] {int.class}, new Object[] {(int) text.charAt(i)});
+            compareCall("append", List.of((int) text.charAt(i)));
         }
-        compareCall("carryOut", new Class<?>[0], new Object[0]);
+        compareCall("carryOut", List.of());
         compare("digest", false);
     }
 
@@ -147,19 +143,16 @@ final class ModelTest {
 
     private void compare(String call, boolean wild) {
         String[] words = call.split(" ");
-        Class<?>[] types = new Class<?>[words.length - 1];
-        Object[] arguments = new Object[words.length - 1];
-        for (int i = 0; i < arguments.length; i++) {
-            boolean flag = words[i + 1].equals("B");
-            types[i] = flag ? boolean.class : int.class;
-            if (flag) {
-                arguments[i] = random.nextBoolean();
+        List<Object> arguments = new ArrayList<>();
+        for (int i = 1; i < words.length; i++) {
+            if (words[i].equals("B")) {
+                arguments.add(random.nextBoolean());
             } else {
-                arguments[i] = wild && random.nextBoolean()
-                        ? wildNumber() : argument(words[i + 1].charAt(0));
+                arguments.add(wild && random.nextBoolean()
+                        ? wildNumber() : argument(words[i].charAt(0)));
             }
         }
-        compareCall(words[0], types, arguments);
+        compareCall(words[0], arguments);
     }
 
     private int wildNumber() {
@@ -194,25 +187,12 @@ final class ModelTest {
                 : new ArrayList<>(numbers).get(random.nextInt(numbers.size()));
     }
 
-    private void compareCall(String name, Class<?>[] types, Object[] arguments) {
-        calls++;
-        String due = answer(PlainDesk.class, plain, name, types, arguments);
-        String got = answer(SectionDesk.class, desk, name, types, arguments);
-        told.add(name + java.util.Arrays.toString(arguments) + " = " + due);
+    private void compareCall(String name, List<Object> arguments) {
+        String due = model.answer(name, arguments);
+        String got = tested.answer(name, arguments);
+        told.add(name + arguments + " = " + due);
         if (!due.equals(got)) {
             Checks.fail(String.join("; ", told) + "; but the answer was " + got);
-        }
-    }
-
-    private static String answer(Class<?> of, Object on, String name, Class<?>[] types,
-            Object[] arguments) {
-        try {
-            Method method = of.getDeclaredMethod(name, types);
-            return String.valueOf(method.invoke(on, arguments));
-        } catch (InvocationTargetException thrown) {
-            return thrown.getCause().getClass().getName();
-        } catch (ReflectiveOperationException missing) {
-            throw new IllegalArgumentException(name, missing);
         }
     }
 }
