@@ -516,7 +516,7 @@ public final class SectionDesk {
 
         int add(int parent) {
             int section = lowestFree();
-            if (section == NONE || size < 0 || size >= SECTIONS) {
+            if (!isWithin(section, 0, SECTIONS - 1) || !isWithin(size, 0, SECTIONS - 1)) {
                 return NONE;
             }
             parents[section] = parent;
@@ -542,7 +542,7 @@ public final class SectionDesk {
         void remove(int gone) {
             int kept = 0;
             int before = size;
-            for (int i = 0; i < before && i < SECTIONS; i++) {
+            for (int i = 0; i < before && i < SECTIONS && kept < SECTIONS; i++) {
                 int section = sequence[i];
                 if (!hasBit(gone, section)) {
                     sequence[kept] = section;
@@ -560,7 +560,7 @@ public final class SectionDesk {
                 return;
             }
             int kept = 0;
-            for (int i = 0; i < size && i < SECTIONS; i++) {
+            for (int i = 0; i < size && i < SECTIONS && kept < SECTIONS; i++) {
                 if (sequence[i] != section) {
                     sequence[kept] = sequence[i];
                     kept++;

@@ -1,74 +1,80 @@
-import java.io.IOException;
 import java.lang.reflect.Constructor;
 import java.lang.reflect.Field;
 import java.lang.reflect.Method;
 import java.lang.reflect.Modifier;
-import java.nio.file.Files;
-import java.nio.file.Path;
-import java.util.Arrays;
+import java.util.ArrayList;
 import java.util.List;
+import java.util.Set;
 import java.util.TreeSet;
-import java.util.stream.Collectors;
+import java.util.regex.Matcher;
+import java.util.regex.Pattern;
 
 /** What of ../shared/LANGUAGE.md can be seen from the class and from its text. */
 final class LanguageTest {
-    private static final String[] FACE = {"int addSection(int) IOOB ISE",
-        "int removeSection(int) IOOB IAE ISE", "int moveSection(int,int) IOOB IAE ISE",
-        "int sections()", "int section(int,int) IOOB IAE", "int child(int,int) IOOB",
-        "int line(int,int) IOOB", "int write(int,int,int) IOOB IAE ISE",
-        "int request(int,int,int,boolean) IOOB IAE ISE", "int cancel(int) IOOB ISE",
-        "int renew(int,int) IOOB IAE ISE", "int breakUp(int) IOOB ISE", "int discard(int) IOOB",
-        "int edit(int,int,int,int) IOOB IAE ISE", "int copied(int,int,int,boolean) IOOB",
-        "int conflicts(int) IOOB", "int giveBack(int,int) IOOB IAE ISE",
-        "int checkOut(int,int) IOOB IAE", "int holders(int) IOOB", "int ifBroken(int) IOOB",
-        "int grantedAt(int) IOOB ISE", "int waitsFor(int) IOOB ISE", "int entries()",
-        "int entry(int,int) IOOB IAE", "int blame(int,int) IOOB",
-        "int lineAt(int,int,int) IOOB IAE", "int revert(int,int) IOOB IAE ISE", "int waiting()",
-        "int waitingAt(int,int) IOOB IAE", "int pass(int) IAE", "int useBits(int) IOOB",
-        "int append(int) IAE ISE", "int clearText()", "int carryOut()", "int outline(int) IAE",
-        "int undo() ISE", "long digest()"};
+    private static final Set<String> LIBRARY = Set.of("java.lang.Integer.bitCount",
+            "java.lang.Math.max", "java.lang.Math.min", "java.lang.System.arraycopy",
+            "java.util.Arrays.fill");
+    /** Some of these the rules allow under conditions; the program does without any of them. */
+    private static final Set<String> FORBIDDEN_KINDS = Set.of("LAMBDA_EXPRESSION",
+            "MEMBER_REFERENCE", "TRY", "CATCH", "ASSERT", "SYNCHRONIZED", "SWITCH_EXPRESSION",
+            "YIELD", "WHILE_LOOP", "DO_WHILE_LOOP", "ANNOTATION", "PACKAGE", "OTHER");
+    private static final int MOST_DEEP = 8;
+    private static final int MOST_CLASSES = 12;
+    private static final int MOST_FIELDS = 20;
+    private static final int MOST_LINES = 60;
+    private static final int MOST_PARAMETERS = 7;
+    private static final int MOST_COLUMNS = 100;
+    /** Far below the room of a whole run, which may have other things to keep, too. */
+    private static final int MOST_OBJECTS = 200;
+    private static final int MOST_ELEMENTS = 30000;
 
     private LanguageTest() {
     }
 
     public static void main(String[] args) {
-        Checks.test("rule 1: the face", LanguageTest::face);
+        Program program = Program.read();
+        Checks.test("the face and the constants are those of the document",
+                () -> sameLines(program.face, DocumentText.face()));
+        Checks.test("the promises have the signatures of the face", LanguageTest::promises);
         Checks.test("rule 1: nothing else can be seen", LanguageTest::nothingElse);
         Checks.test("rules 5 and 11: the fields", LanguageTest::fields);
+        Checks.test("rules 2, 6, 9 and 10: the constructs", () -> constructs(program));
         Checks.test("rules 3, 4 and 6: words that may not stand in the text", LanguageTest::words);
-        Checks.test("rule 11: short methods", LanguageTest::shortMethods);
+        Checks.test("rule 4: the library", () -> library(program));
+        Checks.test("rules 8 and 11: how deep calls go", () -> depth(program));
+        Checks.test("rule 11: short methods", () -> shortMethods(program));
+        Checks.test("rule 12: only constructors make anything that is kept",
+                () -> Checks.same("made", program.made.toString(), "[]"));
+        Checks.test("the room of a desk", LanguageTest::room);
         Checks.finish();
     }
 
-    private static void face() {
-        TreeSet<String> got = new TreeSet<>();
-        for (Method method : SectionDesk.class.getDeclaredMethods()) {
-            if (Modifier.isPublic(method.getModifiers())) {
-                got.add(signature(method));
+    /** A promise tells the name without "public", and the constructor's without "throws". */
+    private static void promises() {
+        List<String> face = new ArrayList<>();
+        for (String line : DocumentText.face()) {
+            if (line.contains("(")) {
+                face.add(line.substring("public ".length(), line.length() - 1));
             }
         }
-        Checks.same("the face", String.join("; ", got),
-                String.join("; ", new TreeSet<>(List.of(FACE))));
-        Checks.due("final", SectionDesk.class.getModifiers(), Modifier.PUBLIC | Modifier.FINAL);
+        List<String> promised = DocumentText.promised();
+        Checks.due("promises", promised.size(), 38);
+        sameLines(promised, face);
     }
 
-    private static String signature(Method method) {
-        String types = Arrays.stream(method.getParameterTypes()).map(Class::getName)
-                .collect(Collectors.joining(","));
-        StringBuilder text = new StringBuilder(method.getReturnType().getName());
-        text.append(' ').append(method.getName()).append('(').append(types).append(')');
-        for (Class<?> kind : method.getExceptionTypes()) {
-            text.append(' ').append(kind == IndexOutOfBoundsException.class ? "IOOB"
-                    : kind == IllegalArgumentException.class ? "IAE"
-                    : kind == IllegalStateException.class ? "ISE" : kind.getName());
+    private static void sameLines(List<String> got, List<String> due) {
+        Checks.due("lines", got.size(), due.size());
+        for (int i = 0; i < got.size() && i < due.size(); i++) {
+            Checks.same("line " + (i + 1), got.get(i), due.get(i));
         }
-        return text.toString();
     }
 
     private static void nothingElse() {
         TreeSet<String> names = new TreeSet<>();
-        for (String method : FACE) {
-            names.add(method.substring(method.indexOf(' ') + 1, method.indexOf('(')));
+        for (Method method : SectionDesk.class.getDeclaredMethods()) {
+            if (Modifier.isPublic(method.getModifiers())) {
+                names.add(method.getName());
+            }
         }
         for (Method method : SectionDesk.class.getDeclaredMethods()) {
             boolean inFace = Modifier.isPublic(method.getModifiers());
@@ -77,16 +83,16 @@ final class LanguageTest {
             Checks.due(method.toString(), inFace || hidden ? 1 : 0, 1);
         }
         for (Class<?> inside : SectionDesk.class.getDeclaredClasses()) {
-            Checks.due(inside + " is static", inside.getModifiers() & Modifier.STATIC,
-                    Modifier.STATIC);
+            int is = inside.getModifiers();
+            Checks.due(inside + " is static", is & Modifier.STATIC, Modifier.STATIC);
+            Checks.due(inside + " is hidden", is & (Modifier.PUBLIC | Modifier.PROTECTED), 0);
             for (Method method : inside.getDeclaredMethods()) {
                 Checks.due(method.toString(), names.contains(method.getName()) ? 1 : 0, 0);
             }
         }
         Constructor<?>[] constructors = SectionDesk.class.getDeclaredConstructors();
         Checks.due("constructors", constructors.length, 1);
-        Checks.due("classes inside", Math.min(12, SectionDesk.class.getDeclaredClasses().length),
-                SectionDesk.class.getDeclaredClasses().length);
+        atMost("classes inside", SectionDesk.class.getDeclaredClasses().length, MOST_CLASSES);
     }
 
     private static void fields() {
@@ -101,59 +107,97 @@ final class LanguageTest {
         for (Field field : of.getDeclaredFields()) {
             int is = field.getModifiers();
             own += Modifier.isStatic(is) ? 0 : 1;
-            boolean constant = !Modifier.isStatic(is) || Modifier.isFinal(is);
+            boolean constant = !Modifier.isStatic(is)
+                    || Modifier.isFinal(is) && field.getType().isPrimitive();
             boolean open = of == SectionDesk.class && field.getName().equals("NONE");
             Checks.due(field + " is a constant", constant ? 1 : 0, 1);
             Checks.due(field + " is private", Modifier.isPrivate(is) || open ? 1 : 0, 1);
         }
-        Checks.due("fields of " + of, Math.min(20, own), own);
+        atMost("fields of " + of, own, MOST_FIELDS);
     }
 
-    private static List<String> program() {
-        try {
-            return Files.readAllLines(Path.of("src/main/java/SectionDesk.java"));
-        } catch (IOException missing) {
-            throw new IllegalStateException(missing);
+    private static void atMost(String what, long got, long most) {
+        if (got > most) {
+            Checks.fail(what + ": " + got + ", at most " + most + " may be");
         }
+    }
+
+    private static void constructs(Program program) {
+        for (String kind : program.kinds) {
+            Checks.due(kind, FORBIDDEN_KINDS.contains(kind) ? 1 : 0, 0);
+        }
+        Checks.same("loops without an end", program.openLoops.toString(), "[]");
+        Checks.same("texts joined by +", program.joinedTexts.toString(), "[]");
     }
 
     /** The text without its comments and without the texts of its exceptions. */
     private static String code() {
-        return String.join("\n", program()).replaceAll("(?s)/\\*.*?\\*/", "")
-                .replaceAll("//[^\n]*", "").replaceAll("\"[^\"\n]*\"", "\"\"");
+        return String.join("\n", DocumentText.linesOf(Program.FILE))
+                .replaceAll("(?s)/\\*.*?\\*/", "").replaceAll("//[^\n]*", "")
+                .replaceAll("\"[^\"\n]*\"", "\"\"");
     }
 
     private static void words() {
         String code = code();
-        String[] forbidden = {"->", "::", "\\bFloat\\b", "\\bDouble\\b", "\\bLong\\b", "Exact\\b",
-            "\\bfinally\\b", "\\bcatch\\b", "\\bassert\\b", "\\bsynchronized\\b", "\\bvar\\b",
-            "\\bpackage\\b", "static \\{", "\\bprotected\\b", "hashCode", "toString", "\\bRandom\\b",
-            "\\bThread\\b", "\\bObject\\b", "[^\\x00-\\x7f]", "System\\.(?!arraycopy\\b)",
-            "Arrays\\.(?!fill\\b|copyOf\\b|copyOfRange\\b)", "Math\\.(?!min\\b|max\\b|abs\\b)",
-            "Integer\\.(?!bitCount\\b)", "import (?!java\\.util\\.Arrays;)", "\\bwhile\\b"};
+        String[] forbidden = {"\\bFloat\\b", "\\bDouble\\b", "\\bdouble\\b", "Exact\\b",
+            "\\bfinally\\b", "\\bvar\\b", "static \\{", "\\bprotected\\b", "hashCode", "toString",
+            "\\bThread\\b", "\\bObject\\b", "[^\\x00-\\x7f]", "import (?!java\\.util\\.Arrays;)",
+            "new (?!Desk\\b|Tree\\b|CheckOuts\\b|Queue\\b|History\\b|SavedStates\\b|OrderText\\b"
+                + "|Outline\\b|int\\[|IndexOutOfBoundsException\\(\"\"|IllegalArgumentException\\(\"\""
+                + "|IllegalStateException\\(\"\")"};
         for (String word : forbidden) {
-            java.util.regex.Matcher found = java.util.regex.Pattern.compile(word).matcher(code);
+            Matcher found = Pattern.compile(word).matcher(code);
             if (found.find()) {
                 Checks.fail("the program has " + found.group());
             }
         }
     }
 
-    private static void shortMethods() {
-        int begin = 0;
-        List<String> lines = program();
-        for (int i = 0; i < lines.size(); i++) {
-            String line = lines.get(i);
-            Checks.due("columns of line " + (i + 1), Math.max(100, line.length()), 100);
-            boolean opens = line.matches("(    ){1,2}[a-z].*\\) (throws .*)?\\{")
-                    || line.matches("(    ){3,4}throws .*\\{");
-            if (opens) {
-                begin = i;
-            } else if (line.matches("(    ){1,2}\\}") && begin > 0) {
-                Checks.due("lines of the method that ends in " + (i + 1),
-                        Math.max(60, i - begin), 60);
-                begin = 0;
-            }
+    private static void library(Program program) {
+        for (String called : program.libraryCalls) {
+            Checks.due(called, LIBRARY.contains(called) ? 1 : 0, 1);
         }
+    }
+
+    private static void depth(Program program) {
+        for (String method : program.calls.keySet()) {
+            List<String> chain = program.longestChain(method, List.of());
+            atMost("the calls of " + chain, chain.size(), MOST_DEEP);
+        }
+        List<String> recursive = new ArrayList<>();
+        program.calls.forEach((method, called) -> {
+            if (called.contains(method)) {
+                recursive.add(method.replaceAll("\\(.*", ""));
+            }
+        });
+        Checks.same("what calls itself", recursive.toString(), "[SectionDesk.Outline.putSection]");
+    }
+
+    private static void shortMethods(Program program) {
+        atMost("lines of the longest method", program.mostLines, MOST_LINES);
+        atMost("parameters", program.mostParameters, MOST_PARAMETERS);
+        List<String> lines = DocumentText.linesOf(Program.FILE);
+        for (int i = 0; i < lines.size(); i++) {
+            atMost("columns of line " + (i + 1), lines.get(i).length(), MOST_COLUMNS);
+        }
+    }
+
+    /** A desk is made once; what it keeps does not grow by what it is used for. */
+    private static void room() {
+        SectionDesk desk = new SectionDesk();
+        long objects = Room.of(desk).objects();
+        long elements = Room.of(desk).elements();
+        atMost("objects", objects, MOST_OBJECTS);
+        atMost("fields and elements", elements, MOST_ELEMENTS);
+        for (int i = 1; i < 20; i++) {
+            desk.addSection(i - 1);
+        }
+        Checks.putText(desk, "q 0 9 9 0;e 0 19 5 7;q 1 0 9 1;p 20;g 0 1;");
+        for (int i = 0; i < 200; i++) {
+            desk.write(10 + i % 10, i % 6, i);
+            Checks.due("carryOut()", desk.carryOut(), 5);
+        }
+        Checks.due("objects of a used one", Room.of(desk).objects(), objects);
+        Checks.due("fields and elements of a used one", Room.of(desk).elements(), elements);
     }
 }

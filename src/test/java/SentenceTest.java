@@ -2,8 +2,8 @@ import java.io.IOException;
 import java.nio.file.Files;
 import java.nio.file.Path;
 import java.util.ArrayList;
+import java.util.Arrays;
 import java.util.HashMap;
-import java.util.LinkedHashMap;
 import java.util.List;
 import java.util.Map;
 import java.util.function.Supplier;
@@ -27,7 +27,7 @@ final class SentenceTest {
     public static void main(String[] args) {
         SentenceTest test = new SentenceTest();
         for (Path file : files()) {
-            test.read(lines(file));
+            test.read(DocumentText.linesOf(file));
         }
         for (Run run : test.runs) {
             Checks.test(run.part + ", " + run.sentence + " : " + run.name,
@@ -41,14 +41,6 @@ final class SentenceTest {
     private static List<Path> files() {
         try (Stream<Path> found = Files.list(Path.of("src/test/sentences"))) {
             return found.filter(file -> file.toString().endsWith(".txt")).sorted().toList();
-        } catch (IOException missing) {
-            throw new IllegalStateException(missing);
-        }
-    }
-
-    private static List<String> lines(Path file) {
-        try {
-            return Files.readAllLines(file);
         } catch (IOException missing) {
             throw new IllegalStateException(missing);
         }
@@ -97,7 +89,7 @@ final class SentenceTest {
     }
 
     private void compareWithDocument() {
-        Map<String, String> parts = documentParts();
+        Map<String, String> parts = DocumentText.parts();
         Map<String, boolean[]> quoted = new HashMap<>();
         parts.forEach((part, text) -> quoted.put(part, new boolean[text.length()]));
         for (Run run : runs) {
@@ -112,7 +104,7 @@ final class SentenceTest {
 
     private static void mark(String text, String sentence, boolean[] quoted) {
         for (int at = text.indexOf(sentence); at >= 0; at = text.indexOf(sentence, at + 1)) {
-            java.util.Arrays.fill(quoted, at, at + sentence.length(), true);
+            Arrays.fill(quoted, at, at + sentence.length(), true);
         }
     }
 
@@ -128,29 +120,5 @@ final class SentenceTest {
                 missing.setLength(0);
             }
         }
-    }
-
-    /** The paragraphs of the description and the promises, each in one line. */
-    private static Map<String, String> documentParts() {
-        Map<String, String> parts = new LinkedHashMap<>();
-        String part = "";
-        for (String line : lines(Path.of("../shared/DOC.md"))) {
-            if (line.startsWith("## ")) {
-                part = line.startsWith("## Promise ") ? line.substring(11).replace(":", "") : "";
-            } else if (line.matches("(Document|Check-outs|Requests|Time|Returning|History|Structure"
-                    + "|Orders|Use|Undo|Exceptions)\\. .*")) {
-                part = line.substring(0, line.indexOf('.'));
-                parts.put(part, line.substring(part.length() + 1).strip());
-                continue;
-            } else if (line.startsWith("Examples: ")) {
-                part = "";
-            }
-            boolean words = !line.isBlank() && !line.startsWith("## ") && !line.startsWith("----")
-                    && !line.matches("`.*\\(.*`");
-            if (!part.isEmpty() && words) {
-                parts.merge(part, line.strip(), (all, more) -> all + " " + more);
-            }
-        }
-        return parts;
     }
 }
